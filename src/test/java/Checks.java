@@ -1,0 +1,33 @@
+/** Counts the checks of one test program and tells each one that is wrong. */
+final class Checks {
+    private final String program;
+    private int made = 0;
+    private int wrong = 0;
+
+    Checks(String program) {
+        this.program = program;
+    }
+
+    void due(String call, long got, long want) {
+        made++;
+        if (got != want) {
+            wrong++;
+            System.out.println(program + ": " + call + " answered " + got + ", due is " + want);
+        }
+    }
+
+    void holds(String claim, boolean holds) {
+        due(claim, holds ? 1 : 0, 1);
+    }
+
+    boolean anyWrong() {
+        return wrong > 0;
+    }
+
+    void finish() {
+        System.out.println(program + ": " + (made - wrong) + " of " + made + " checks are as due");
+        if (wrong > 0 || made == 0) {
+            System.exit(1);
+        }
+    }
+}
