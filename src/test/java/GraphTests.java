@@ -43,6 +43,10 @@ final class GraphTests {
         checks.due("20: cut by a second definer", x.dependents(0), 62);
         checks.due("20: a MULTIPLE cell has none", x.dependents(5), 0);
         checks.due("20: behind the cut", x.dependents(6), 896);
+        x.deleteCell(10);
+        x.deleteCell(9);
+        checks.due("20: a deleted cell is no dependent", x.dependents(8), 0);
+        checks.due("20: nor is it one of the whole chain", x.dependents(0), 510);
     }
 
     private static void dependentsOnCycles() {

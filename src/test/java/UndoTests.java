@@ -8,6 +8,7 @@ final class UndoTests {
         fourStatesAreKept();
         everyUndoableCallIsUndone();
         undoBringsResultsAndVersionsBack();
+        undoBringsRecordedVersionsBack();
         undoBringsTheModeBack();
         undoKeepsErrorCounters();
         savedStatesStandApart();
@@ -93,6 +94,29 @@ final class UndoTests {
         x.addCell(2, 0, 1, 1);
         x.runStale();
         checks.due("25: the greatest version is restored too", x.version(2), 3);
+    }
+
+    /** After undo() a cell is fresh or stale by the versions that it had recorded then, on either side. */
+    private static void undoBringsRecordedVersionsBack() {
+        for (int side = 0; side < 2; side++) {
+            ReactiveNotebook x = new ReactiveNotebook();
+            x.addCell(0, 0, 1, 1);
+            x.addCell(1, 4, side == 0 ? 100 : 50, side == 0 ? 50 : 100);
+            x.runStale();
+            x.editCell(0, 0, 0, 2, 2);
+            x.runStale();
+            checks.due("25: version(1) before", x.version(1), 2);
+            x.undo();
+            x.undo();
+            checks.due("25: fresh by the recorded version", x.status(1), 0);
+            checks.due("25: nothing is to be run", x.runStale(), 0);
+            x.editCell(0, 0, 0, 2, 2);
+            x.runCell(0);
+            checks.due("25: stale by the recorded version", x.status(1), 1);
+            x.runStale();
+            x.undo();
+            checks.due("25: stale by it again", x.status(1), 1);
+        }
     }
 
     private static void undoBringsTheModeBack() {
