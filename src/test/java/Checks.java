@@ -1,6 +1,7 @@
 /** Counts the checks of one test program and tells each one that is wrong. */
 final class Checks {
     private final String program;
+    private String sentence = "";
     private int made = 0;
     private int wrong = 0;
 
@@ -8,11 +9,24 @@ final class Checks {
         this.program = program;
     }
 
+    /** The checks from here on look at this sentence, which stands in the document under this head. */
+    void sentence(String head, String words) {
+        sentence = head + " \"" + words + "\": ";
+    }
+
     void due(String call, long got, long want) {
         made++;
         if (got != want) {
             wrong++;
-            System.out.println(program + ": " + call + " answered " + got + ", due is " + want);
+            System.out.println(program + ": " + sentence + call + " answered " + got + ", due is " + want);
+        }
+    }
+
+    void same(String claim, String got, String want) {
+        made++;
+        if (!got.equals(want)) {
+            wrong++;
+            System.out.println(program + ": " + sentence + claim + "\n  answered " + got + "\n  due is   " + want);
         }
     }
 
