@@ -28,6 +28,7 @@ final class BoundaryEditingTests {
         editCellOperator();
         editCellLeft();
         editCellRight();
+        editCellReplacesTheDefinition();
         editCellLosesResult();
         editCellAnswer();
         deleteCellMovesLaterOnes();
@@ -38,6 +39,7 @@ final class BoundaryEditingTests {
         moveCellKeepsResults();
         moveCellAnswer();
         setEagerMode();
+        setEagerSetsTheMode();
         setEagerAnswer();
         cellCount();
         variable();
@@ -385,6 +387,27 @@ final class BoundaryEditingTests {
         checks.due("the least", x.value(0), 1);
     }
 
+    private static void editCellReplacesTheDefinition() {
+        checks.sentence("Promise 3", "Replaces the definition of a cell.");
+        ReactiveNotebook x = Notebooks.constants(2);
+        x.setEager(1);
+        x.editCell(1, 9, ADD, 1, 10);
+        checks.due("the variable alone: the new one", x.valueOf(9), 11);
+        checks.due("the variable alone: the old one", x.definers(1), 0);
+        x.editCell(1, 9, SUBTRACT, 1, 10);
+        checks.due("the operator alone", x.value(1), -9);
+        x.editCell(1, 9, SUBTRACT, 2, 10);
+        checks.due("the left operand alone", x.value(1), -8);
+        x.editCell(1, 9, SUBTRACT, 2, 11);
+        checks.due("the right operand alone", x.value(1), -9);
+        x.editCell(1, 9, SUBTRACT, 100, 11);
+        checks.due("a variable in a constant's place", x.dependencies(1), 1);
+        x.editCell(1, 9, SUBTRACT, 2, 11);
+        checks.due("a constant in a variable's place", x.dependencies(1), 0);
+        checks.due("no cell is added", x.cellCount(), 2);
+        checks.due("the other cell stays", x.value(0), 10);
+    }
+
     private static void editCellLosesResult() {
         checks.sentence("Promise 3", "The cell loses its result, also if the definition is the same as before.");
         ReactiveNotebook x = Notebooks.constants(2);
@@ -542,6 +565,24 @@ final class BoundaryEditingTests {
         }
         checks.due("0", new ReactiveNotebook().setEager(0), 0);
         checks.due("1", new ReactiveNotebook().setEager(1), 0);
+    }
+
+    private static void setEagerSetsTheMode() {
+        checks.sentence("Promise 6", "eager: 1 for eager mode, 0 for non-eager mode");
+        ReactiveNotebook x = new ReactiveNotebook();
+        x.setEager(1);
+        x.addCell(0, ADD, 1, 1);
+        checks.due("1: a new cell is run", x.runs(0), 1);
+        x.setEager(0);
+        x.addCell(1, ADD, 1, 1);
+        checks.due("0: a new cell is not run", x.runs(1), 0);
+        x.setEager(0);
+        x.addCell(2, ADD, 1, 1);
+        checks.due("0 once more: nor is this one", x.runs(2), 0);
+        x.setEager(1);
+        checks.due("1: what was left is run", x.runs(1) + x.runs(2), 2);
+        x.setEager(1);
+        checks.due("1 once more: nothing is run again", x.totalRuns(), 3);
     }
 
     private static void setEagerAnswer() {

@@ -4,13 +4,16 @@
  */
 final class BoundaryGraphTests {
     private static final int NONE = -10001, INVALID = -10002;
-    private static final int FRESH = 0, STALE = 1, MULTIPLE = 2, CYCLE = 3, UNDEFINED = 4, BAD_INPUT = 5, OVERFLOW = 6, ZERO_DIVISION = 7;
+    private static final int FRESH = 0, STALE = 1;
+    private static final int MULTIPLE = 2, CYCLE = 3, UNDEFINED = 4, BAD_INPUT = 5;
+    private static final int OVERFLOW = 6, ZERO_DIVISION = 7;
     private static final int ADD = 0, MAXIMUM = 4;
     private static final int MIN = Integer.MIN_VALUE, MAX = Integer.MAX_VALUE;
     private static final int[] FAR_CELLS = {-1, 12, 32, MIN, MAX};
     private static final Checks checks = new Checks("BoundaryGraphTests");
 
     public static void main(String[] args) {
+        usesItsOperands();
         dependsOnExactlyOneDefiner();
         dependsOnItself();
         firstStaticErrorThatHolds();
@@ -35,12 +38,30 @@ final class BoundaryGraphTests {
         definersMask();
         definersRefused();
         runnableCount();
+        runnableCountRange();
         runOrderIndex();
         staleCount();
         checks.finish();
     }
 
     // ---- Terms, DEPENDENCIES AND STATIC ERRORS
+
+    private static void usesItsOperands() {
+        checks.sentence("DEPENDENCIES AND STATIC ERRORS", "A cell uses the variables that occur as its operands.");
+        ReactiveNotebook x = Notebooks.constants(3);
+        x.editCell(2, 2, ADD, 0, 99);
+        checks.due("none", x.dependencies(2), 0);
+        x.editCell(2, 2, ADD, 99, 100);
+        checks.due("one on the right", x.dependencies(2), 1);
+        x.editCell(2, 2, ADD, 101, 99);
+        checks.due("one on the left", x.dependencies(2), 2);
+        x.editCell(2, 2, ADD, 101, 101);
+        checks.due("one twice", x.dependencies(2), 2);
+        x.editCell(2, 2, ADD, 101, 100);
+        checks.due("two", x.dependencies(2), 3);
+        x.editCell(2, 2, Notebooks.MULTIPLY, 0, 100);
+        checks.due("also one that cannot change the result", x.dependencies(2), 1);
+    }
 
     private static void dependsOnExactlyOneDefiner() {
         checks.sentence("DEPENDENCIES AND STATIC ERRORS",
@@ -84,7 +105,8 @@ final class BoundaryGraphTests {
 
     private static void firstStaticErrorThatHolds() {
         checks.sentence("DEPENDENCIES AND STATIC ERRORS",
-            "A cell has a static error if one of the following conditions holds; the first one that holds is its static error");
+            "A cell has a static error if one of the following conditions holds; the first one that holds is its"
+            + " static error");
         ReactiveNotebook x = Notebooks.rivals(1);
         x.addCell(0, ADD, 109, 1);
         checks.due("MULTIPLE and UNDEFINED", x.status(1), MULTIPLE);
@@ -313,7 +335,8 @@ final class BoundaryGraphTests {
 
     private static void statusOfEachKind() {
         checks.sentence("Promise 13", "Returns the status of a cell: its static error (MULTIPLE, CYCLE, UNDEFINED or BAD_INPUT)"
-            + " if it has one; otherwise STALE if it is stale; otherwise FRESH if its result is a value, or the error that is its result.");
+            + " if it has one; otherwise STALE if it is stale; otherwise FRESH if its result is a value, or the error"
+            + " that is its result.");
         ReactiveNotebook x = Notebooks.busy();
         int[] want = {MULTIPLE, MULTIPLE, CYCLE, UNDEFINED, BAD_INPUT, FRESH, OVERFLOW, ZERO_DIVISION, STALE, STALE};
         for (int cell = 0; cell < want.length; cell++) {
@@ -445,8 +468,18 @@ final class BoundaryGraphTests {
         checks.due("a full one with nine", Notebooks.full().runnableCount(), 9);
     }
 
+    private static void runnableCountRange() {
+        checks.sentence("Promise 22", "Returns 0 to 12.");
+        checks.due("the least, of no cell", new ReactiveNotebook().runnableCount(), 0);
+        checks.due("the least, of 12 cells", Notebooks.rivals(12).runnableCount(), 0);
+        // 10 variables leave room for 10 runnable cells, though the document's range goes to 12.
+        checks.due("the most that can be", Notebooks.chain(10).runnableCount(), 10);
+        checks.due("the most that 12 cells can have", Notebooks.full().runnableCount(), 9);
+    }
+
     private static void runOrderIndex() {
-        checks.sentence("Promise 23", "Returns the index of the cell; NONE if index is not below runnableCount(); INVALID if index is negative.");
+        checks.sentence("Promise 23",
+            "Returns the index of the cell; NONE if index is not below runnableCount(); INVALID if index is negative.");
         for (int wrong : new int[] {-1, -2, MIN}) {
             Twins.refused(checks, "runOrder(" + wrong + ")", x -> x.runOrder(wrong), INVALID);
         }

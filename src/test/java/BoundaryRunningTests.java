@@ -1,7 +1,9 @@
 /** The boundary cases that the document names of running cells, results and versions, and of promises 7 to 10 and 14 to 18. */
 final class BoundaryRunningTests {
     private static final int NONE = -10001, INVALID = -10002, REJECTED = -10003;
-    private static final int FRESH = 0, STALE = 1, MULTIPLE = 2, CYCLE = 3, UNDEFINED = 4, BAD_INPUT = 5, OVERFLOW = 6, ZERO_DIVISION = 7;
+    private static final int FRESH = 0, STALE = 1;
+    private static final int MULTIPLE = 2, CYCLE = 3, UNDEFINED = 4, BAD_INPUT = 5;
+    private static final int OVERFLOW = 6, ZERO_DIVISION = 7;
     private static final int ADD = 0, SUBTRACT = 1, MULTIPLY = 2, DIVIDE = 3, MAXIMUM = 4, MINIMUM = 5;
     private static final int MIN = Integer.MIN_VALUE, MAX = Integer.MAX_VALUE;
     private static final int[] FAR_CELLS = {-1, 12, 32, MIN, MAX};
@@ -14,6 +16,7 @@ final class BoundaryRunningTests {
         badInputBeforeZeroDivision();
         zeroDivision();
         zeroDivisionOfDivideAlone();
+        eachResultHasAVersion();
         versionOneIfNoneHasBeenGiven();
         versionOneMoreThanTheGreatest();
         undoRestoresTheGreatestVersion();
@@ -26,6 +29,7 @@ final class BoundaryRunningTests {
         freshWithoutVariables();
         freshWhenTheDefinerIsFresh();
         freshWhenTheVersionIsTheRecordedOne();
+        staleIfNotFresh();
         staleWhenReached();
         eagerCallsEndWithRunning();
         refusedCallsRunNothingInEagerMode();
@@ -36,6 +40,7 @@ final class BoundaryRunningTests {
         runCellInvalid();
         runCellRejected();
         lastRunCount();
+        lastRunCountInEagerMode();
         lastRunIndex();
         lastRunTellsTheIndexWhenRun();
         value();
@@ -45,6 +50,7 @@ final class BoundaryRunningTests {
         version();
         versionRefused();
         runs();
+        runsStayWhenEditedOrMoved();
         runsRefused();
         totalRuns();
         checks.finish();
@@ -126,7 +132,8 @@ final class BoundaryRunningTests {
     }
 
     private static void badInputAsResult() {
-        checks.sentence("RUNNING", "The result is BAD_INPUT if a used variable has no value because the result of its cell is an error.");
+        checks.sentence("RUNNING",
+            "The result is BAD_INPUT if a used variable has no value because the result of its cell is an error.");
         ReactiveNotebook inputs = errorResults();
         checks.due("status of variable 1", inputs.status(2), OVERFLOW);
         checks.due("status of variable 2", inputs.status(3), ZERO_DIVISION);
@@ -198,8 +205,22 @@ final class BoundaryRunningTests {
 
     // ---- Terms, RUNNING: versions
 
+    private static void eachResultHasAVersion() {
+        checks.sentence("RUNNING", "Each result has a version.");
+        ReactiveNotebook x = errorResults();
+        int[] want = {1, 2, 3, 4, 5};
+        for (int cell = 0; cell < 5; cell++) {
+            checks.due("a result with status " + x.status(cell), x.version(cell), want[cell]);
+        }
+        x.addCell(9, ADD, 1, 1);
+        checks.due("no result", x.version(5), 0);
+        ReactiveNotebook y = Notebooks.full();
+        checks.due("no result with a static error", y.version(9), 0);
+    }
+
     private static void versionOneIfNoneHasBeenGiven() {
-        checks.sentence("RUNNING", "1 more than the greatest version that has been given so far in the notebook (1 if none has been given).");
+        checks.sentence("RUNNING",
+            "1 more than the greatest version that has been given so far in the notebook (1 if none has been given).");
         ReactiveNotebook x = Notebooks.constants(3);
         x.runCell(2);
         checks.due("the first that is run", x.version(2), 1);
@@ -276,7 +297,9 @@ final class BoundaryRunningTests {
     }
 
     private static void differentResultGetsANewVersion() {
-        checks.sentence("RUNNING", "When a cell is run and has no result yet, or the new result differs from the old one, the new result gets a new version");
+        checks.sentence("RUNNING",
+            "When a cell is run and has no result yet, or the new result differs from the old one, the new result"
+            + " gets a new version");
         ReactiveNotebook x = new ReactiveNotebook();
         x.addCell(0, ADD, 1, 1);
         x.addCell(1, MULTIPLY, 100, 100);
@@ -303,7 +326,9 @@ final class BoundaryRunningTests {
     }
 
     private static void recordedVersions() {
-        checks.sentence("RUNNING", "Running a cell also records, for each operand that is a variable, the version of the result that was used.");
+        checks.sentence("RUNNING",
+            "Running a cell also records, for each operand that is a variable, the version of the result that was"
+            + " used.");
         int[][] operands = {{100, 50}, {50, 100}, {100, 100}, {100, 101}, {101, 100}};
         for (int[] operand : operands) {
             ReactiveNotebook x = new ReactiveNotebook();
@@ -443,10 +468,26 @@ final class BoundaryRunningTests {
         checks.due("a move leaves it fresh", x.status(0), FRESH);
     }
 
+    private static void staleIfNotFresh() {
+        checks.sentence("RUNNING", "A runnable cell that is not fresh is stale.");
+        ReactiveNotebook x = Notebooks.chain(3);
+        for (int fresh = 0; fresh <= 3; fresh++) {
+            for (int cell = 0; cell < 3; cell++) {
+                checks.due(fresh + " are fresh: status(" + cell + ")", x.status(cell), cell < fresh ? FRESH : STALE);
+            }
+            checks.due(fresh + " are fresh: staleCount()", x.staleCount(), 3 - fresh);
+            x.runCell(Math.min(fresh, 2));
+        }
+        x.editCell(0, 0, ADD, 109, 1);
+        checks.due("a cell that is not runnable is not stale", x.staleCount(), 0);
+        checks.due("its status", x.status(0), UNDEFINED);
+    }
+
     // ---- Terms, RUN ORDER: running the stale cells
 
     private static void staleWhenReached() {
-        checks.sentence("RUN ORDER", "go through the run order once, and run each cell that is stale at the moment when it is reached.");
+        checks.sentence("RUN ORDER",
+            "go through the run order once, and run each cell that is stale at the moment when it is reached.");
         ReactiveNotebook x = Notebooks.chain(10);
         x.editCell(1, 1, MINIMUM, 100, 0);
         checks.due("all", x.runStale(), 10);
@@ -466,7 +507,8 @@ final class BoundaryRunningTests {
 
     private static void eagerCallsEndWithRunning() {
         checks.sentence("RUN ORDER",
-            "In eager mode, every successful call of addCell(), editCell(), deleteCell(), moveCell() and setEager() ends with running the stale cells.");
+            "In eager mode, every successful call of addCell(), editCell(), deleteCell(), moveCell() and setEager()"
+            + " ends with running the stale cells.");
         ReactiveNotebook x = Notebooks.chain(2);
         x.setEager(1);
         checks.due("setEager(1)", x.lastRunCount(), 2);
@@ -500,7 +542,8 @@ final class BoundaryRunningTests {
     }
 
     private static void refusedCallsRunNothingInEagerMode() {
-        checks.sentence("RUN ORDER", "In eager mode, every successful call of addCell(), editCell(), deleteCell(), moveCell() and setEager()");
+        checks.sentence("RUN ORDER",
+            "In eager mode, every successful call of addCell(), editCell(), deleteCell(), moveCell() and setEager()");
         Twins.refusedBy(checks, "addCell", Notebooks::eager, x -> x.addCell(0, ADD, 110, 1), INVALID);
         Twins.refusedBy(checks, "editCell", Notebooks::eager, x -> x.editCell(4, 0, ADD, 1, 1), INVALID);
         Twins.refusedBy(checks, "deleteCell", Notebooks::eager, x -> x.deleteCell(4), INVALID);
@@ -620,6 +663,29 @@ final class BoundaryRunningTests {
         checks.due("undone further", y.lastRunCount(), 0);
     }
 
+    private static void lastRunCountInEagerMode() {
+        checks.sentence("Promise 9", "Returns the number of cells that were run by the latest successful undoable call,"
+            + " including the running in eager mode.");
+        ReactiveNotebook x = Notebooks.chain(10);
+        checks.due("an edit in non-eager mode", x.lastRunCount(), 0);
+        x.setEager(1);
+        checks.due("all ten", x.lastRunCount(), 10);
+        x.setEager(1);
+        checks.due("none", x.lastRunCount(), 0);
+        x.editCell(0, 0, ADD, 2, 2);
+        checks.due("all ten again", x.lastRunCount(), 10);
+        x.addCell(9, ADD, 1, 1);
+        checks.due("an added rival", x.lastRunCount(), 0);
+        x.runStale();
+        checks.due("runStale() in eager mode", x.lastRunCount(), 0);
+        x.deleteCell(10);
+        checks.due("the rival is gone: its cell had kept its result", x.lastRunCount(), 0);
+        x.editCell(9, 9, ADD, 1, 1);
+        checks.due("one", x.lastRunCount(), 1);
+        x.runCell(9);
+        checks.due("runCell of a fresh cell", x.lastRunCount(), 0);
+    }
+
     private static void lastRunIndex() {
         checks.sentence("Promise 10", "NONE if index is not below lastRunCount(); INVALID if index is negative.");
         for (int wrong : new int[] {-1, -2, MIN}) {
@@ -736,25 +802,44 @@ final class BoundaryRunningTests {
     }
 
     private static void runs() {
-        checks.sentence("Promise 17", "Returns how often a cell has been run since it was added. Editing and moving do not change this number.");
+        checks.sentence("Promise 17", "Returns how often a cell has been run since it was added.");
         ReactiveNotebook x = Notebooks.constants(2);
         checks.due("never", x.runs(0), 0);
         x.runStale();
         checks.due("once", x.runs(0), 1);
         x.runStale();
         checks.due("a fresh cell is not run", x.runs(0), 1);
-        x.editCell(0, 5, SUBTRACT, 1, 1);
-        checks.due("edited", x.runs(0), 1);
+        x.editCell(0, 0, ADD, 0, 10);
         x.runStale();
         checks.due("twice", x.runs(0), 2);
-        x.moveCell(0, 1);
-        checks.due("moved", x.runs(1), 2);
-        checks.due("the other moved by it", x.runs(0), 1);
-        x.deleteCell(1);
-        x.addCell(5, SUBTRACT, 1, 1);
+        checks.due("the other once", x.runs(1), 1);
+        x.deleteCell(0);
+        x.addCell(0, ADD, 0, 10);
         checks.due("deleted and added anew", x.runs(1), 0);
         x.runStale();
-        checks.due("since it was added", x.runs(1), 1);
+        checks.due("once since then", x.runs(1), 1);
+        x.addCell(1, ADD, 1, 1);
+        x.runStale();
+        checks.due("with a static error it is not run, and keeps its number", x.runs(0), 1);
+        checks.due("never, with a static error from the first", x.runs(2), 0);
+    }
+
+    private static void runsStayWhenEditedOrMoved() {
+        checks.sentence("Promise 17", "Editing and moving do not change this number.");
+        ReactiveNotebook x = Notebooks.constants(3);
+        x.runCell(0);
+        x.editCell(0, 5, SUBTRACT, 1, 1);
+        checks.due("edited", x.runs(0), 1);
+        x.runCell(0);
+        checks.due("run once more", x.runs(0), 2);
+        x.moveCell(0, 2);
+        checks.due("moved to the end", x.runs(2), 2);
+        checks.due("a cell moved by it", x.runs(0), 0);
+        x.moveCell(2, 0);
+        checks.due("moved to the start", x.runs(0), 2);
+        checks.due("a cell moved by it", x.runs(2), 0);
+        x.editCell(2, 2, ADD, 1, 1);
+        checks.due("0 stays 0", x.runs(2), 0);
     }
 
     private static void runsRefused() {

@@ -32,6 +32,7 @@ final class BoundaryUndoTests {
         errorCountKind();
         errorCountAnswer();
         errorCountCountsItself();
+        digestStart();
         digestOfTheEmptyNotebook();
         digestOfFullNotebooks();
         digestOfEachState();
@@ -43,7 +44,8 @@ final class BoundaryUndoTests {
 
     /** Notebooks of three saved states, so that the next one is saved without dropping any. */
     private static final Notebooks.Recipe[] WITH_ROOM = {
-        () -> withRoom(Notebooks.busy()), () -> withRoom(Notebooks.eager()), () -> withRoom(Notebooks.full()), () -> Notebooks.chain(3)};
+        () -> withRoom(Notebooks.busy()), () -> withRoom(Notebooks.eager()), () -> withRoom(Notebooks.full()),
+        () -> Notebooks.chain(3)};
 
     private static ReactiveNotebook withRoom(ReactiveNotebook x) {
         x.undo();
@@ -73,7 +75,8 @@ final class BoundaryUndoTests {
     }
 
     private static final String SAVES =
-        "saves the whole state of the notebook (cells, results, versions, mode, the execution counts and the list of the last run)"
+        "saves the whole state of the notebook (cells, results, versions, mode, the execution counts and the list"
+        + " of the last run)"
         + " on an undo stack when it succeeds";
 
     private static void savedWhenItSucceeds() {
@@ -302,12 +305,15 @@ final class BoundaryUndoTests {
 
     private static void invalidBeforeFull() {
         checks.sentence("ERRORS", "If two errors apply, INVALID is returned before REJECTED, and REJECTED before FULL.");
-        int[][] wrong = {{-1, 0, 0, 0}, {10, 0, 0, 0}, {0, -1, 0, 0}, {0, 6, 0, 0}, {0, 0, -1, 0}, {0, 0, 110, 0}, {0, 0, 0, -1}, {0, 0, 0, 110}};
+        int[][] wrong = {
+            {-1, 0, 0, 0}, {10, 0, 0, 0}, {0, -1, 0, 0}, {0, 6, 0, 0},
+            {0, 0, -1, 0}, {0, 0, 110, 0}, {0, 0, 0, -1}, {0, 0, 0, 110}};
         for (int[] w : wrong) {
             Twins.refusedBy(checks, "INVALID and FULL", Notebooks::full, x -> x.addCell(w[0], w[1], w[2], w[3]), INVALID);
         }
-        Twins.refusedBy(checks, "INVALID in a notebook whose cells are all REJECTED", () -> Notebooks.rivals(12), x -> x.runCell(12), INVALID);
-        Twins.refusedBy(checks, "REJECTED in a full notebook", () -> Notebooks.rivals(12), x -> x.runCell(11), REJECTED);
+        Notebooks.Recipe rejecting = () -> Notebooks.rivals(12);
+        Twins.refusedBy(checks, "INVALID where every cell is REJECTED", rejecting, x -> x.runCell(12), INVALID);
+        Twins.refusedBy(checks, "REJECTED in a full notebook", rejecting, x -> x.runCell(11), REJECTED);
     }
 
     private static void twoWrongArgumentsAreOneError() {
@@ -456,11 +462,22 @@ final class BoundaryUndoTests {
         checks.due(what, x.digest(), unboundedDigest(x, states, mode, expressions).longValue());
     }
 
-    private static final String STARTS = "It starts with h = 11872. For each of the following values v, in this order, h becomes 31 * h + v";
+    private static final String STARTS =
+        "It starts with h = 11872. For each of the following values v, in this order, h becomes 31 * h + v";
 
-    private static void digestOfTheEmptyNotebook() {
+    private static void digestStart() {
         checks.sentence("Promise 27", STARTS);
         digestIs("a new object", new ReactiveNotebook(), 0, 0);
+        long start = 11872;
+        for (int i = 0; i < 9; i++) {
+            start *= 31;
+        }
+        checks.due("nine times 0", new ReactiveNotebook().digest(), start);
+    }
+
+    private static void digestOfTheEmptyNotebook() {
+        checks.sentence("Promise 27", "errorCount(0) to errorCount(2), the number of states on the undo stack,"
+            + " the mode (1 if eager, otherwise 0), totalRuns(), lastRunCount(), each element of the last run;");
         ReactiveNotebook x = new ReactiveNotebook();
         x.deleteCell(0);
         digestIs("an error more", x, 0, 0);
@@ -486,7 +503,7 @@ final class BoundaryUndoTests {
     }
 
     private static void digestOfFullNotebooks() {
-        checks.sentence("Promise 27", STARTS);
+        checks.sentence("Promise 27", "runnableCount(), each element of the run order.");
         int[][] full = new int[12][];
         System.arraycopy(chainExpressions(9), 0, full, 0, 9);
         for (int i = 0; i < 3; i++) {
@@ -504,7 +521,9 @@ final class BoundaryUndoTests {
     }
 
     private static void digestOfEachState() {
-        checks.sentence("Promise 27", "its operator, its left operand, its right operand, status(), value(), version(), runs(), dependencies() and dependents();");
+        checks.sentence("Promise 27",
+            "its operator, its left operand, its right operand, status(), value(), version(), runs(), dependencies()"
+            + " and dependents();");
         int[][] busy = {{ADD, 10, 1}, {ADD, 11, 1}, {ADD, 101, 1}, {ADD, 109, 1}, {ADD, 102, 1}, {MULTIPLY, 99, 99},
             {ADD, 104, 104}, {DIVIDE, 9, 0}, {ADD, 105, 106}, {ADD, 104, 1}};
         digestIs("statuses of every kind", Notebooks.busy(), 4, 0, busy);
