@@ -306,6 +306,11 @@ final class BoundaryEditingTests {
         checks.due("with 11 cells", Notebooks.rivals(11).addCell(9, ADD, 1, 1), 11);
         Twins.refusedBy(checks, "with 12 cells", Notebooks::full, x -> x.addCell(9, ADD, 1, 1), FULL);
         Twins.refusedBy(checks, "with 12 rivals", () -> Notebooks.rivals(12), x -> x.addCell(9, MINIMUM, 109, 0), FULL);
+        Twins.refusedBy(checks, "with 12 cells, nine of them stale", () -> {
+            ReactiveNotebook x = Notebooks.full();
+            x.editCell(0, 0, ADD, 50, 5);
+            return x;
+        }, x -> x.addCell(9, ADD, 1, 1), FULL);
         Twins.refusedBy(checks, "with 12 cells in eager mode", () -> {
             ReactiveNotebook x = Notebooks.full();
             x.setEager(1);

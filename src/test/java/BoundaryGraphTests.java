@@ -22,6 +22,7 @@ final class BoundaryGraphTests {
         undefined();
         badInputOfEachKind();
         badInputAlongTheLongestChain();
+        badInputOfElevenCells();
         runnableWithoutStaticError();
         runnableDependsOnRunnable();
         runOrderOfNone();
@@ -33,9 +34,11 @@ final class BoundaryGraphTests {
         dependenciesMask();
         dependenciesRefused();
         dependentsMask();
+        dependentsThroughTheLastCells();
         dependentsContainTheCellOnACycle();
         dependentsRefused();
         definersMask();
+        definersWithStaticErrors();
         definersRefused();
         runnableCount();
         runnableCountRange();
@@ -233,6 +236,29 @@ final class BoundaryGraphTests {
         checks.due("no error is left", up.runnableCount(), 10);
     }
 
+    private static void badInputOfElevenCells() {
+        checks.sentence("DEPENDENCIES AND STATIC ERRORS",
+            "(4) BAD_INPUT: it uses a variable that is defined by a cell with a static error of any kind.");
+        ReactiveNotebook up = Notebooks.chain(10);
+        up.editCell(0, 0, ADD, 100, 1);
+        ReactiveNotebook down = Notebooks.reversedChain(10);
+        down.editCell(9, 9, ADD, 1, 109);
+        for (int behind = 1; behind < 10; behind++) {
+            checks.due(behind + " cells behind a cycle of one", up.status(behind), BAD_INPUT);
+            checks.due(behind + " cells behind it, backwards", down.status(9 - behind), BAD_INPUT);
+        }
+        down.editCell(9, 9, ADD, 1, 1);
+        down.addCell(9, ADD, 1, 1);
+        for (int cell = 0; cell < 9; cell++) {
+            checks.due("cell " + cell + " before two definers", down.status(cell), BAD_INPUT);
+        }
+        ReactiveNotebook twelve = Notebooks.rivals(11);
+        twelve.addCell(1, ADD, 100, 1);
+        checks.due("the last of 12 cells", twelve.status(11), BAD_INPUT);
+        twelve.moveCell(11, 0);
+        checks.due("the first of 12 cells", twelve.status(0), BAD_INPUT);
+    }
+
     private static void runnableWithoutStaticError() {
         checks.sentence("DEPENDENCIES AND STATIC ERRORS", "A cell without a static error is runnable.");
         ReactiveNotebook x = Notebooks.busy();
@@ -407,6 +433,24 @@ final class BoundaryGraphTests {
         checks.due("none depends on the lowest", y.dependents(0), 0);
     }
 
+    private static void dependentsThroughTheLastCells() {
+        checks.sentence("Promise 20", "Returns the cells that depend on a cell directly or indirectly.");
+        for (int between = 3; between < 12; between++) {
+            ReactiveNotebook x = new ReactiveNotebook();
+            x.addCell(0, ADD, 1, 1);
+            x.addCell(2, ADD, 101, 1);
+            x.addCell(1, ADD, 100, 1);
+            for (int i = 0; i < 9; i++) {
+                x.addCell(9, ADD, i, 1);
+            }
+            x.moveCell(2, between);
+            checks.due("over cell " + between, x.dependents(0), 2 | 1 << between);
+            x.editCell(0, 0, ADD, 102, 1);
+            checks.due("a cycle over cell " + between, x.dependents(0), 3 | 1 << between);
+            checks.due("the cells on it", x.status(0), CYCLE);
+        }
+    }
+
     private static void dependentsContainTheCellOnACycle() {
         checks.sentence("Promise 20", "The cell itself is contained if it lies on a cycle.");
         ReactiveNotebook x = Notebooks.full();
@@ -440,6 +484,20 @@ final class BoundaryGraphTests {
         ReactiveNotebook x = Notebooks.full();
         checks.due("the last three of 12", x.definers(9), 3584);
         checks.due("the first", x.definers(0), 1);
+    }
+
+    private static void definersWithStaticErrors() {
+        checks.sentence("Promise 21", "Returns the cells that define a variable.");
+        ReactiveNotebook x = Notebooks.constants(1);
+        x.addCell(1, ADD, 101, 1);
+        x.addCell(2, ADD, 109, 1);
+        x.addCell(3, ADD, 102, 1);
+        checks.due("one that can be run", x.definers(0), 1);
+        checks.due("one on a cycle", x.definers(1), 2);
+        checks.due("an UNDEFINED one", x.definers(2), 4);
+        checks.due("a BAD_INPUT one", x.definers(3), 8);
+        x.addCell(0, ADD, 109, 1);
+        checks.due("two MULTIPLE ones", x.definers(0), 17);
     }
 
     private static void definersRefused() {

@@ -370,6 +370,17 @@ final class BoundaryUndoTests {
             }
             return x;
         }, x -> x.undo(), REJECTED);
+        Twins.refusedBy(checks, "with a last run and stale cells", () -> {
+            ReactiveNotebook x = Notebooks.chain(5);
+            x.runCell(2);
+            for (int i = 0; i < 4; i++) {
+                x.moveCell(0, 0);
+            }
+            for (int i = 0; i < 4; i++) {
+                x.undo();
+            }
+            return x;
+        }, x -> x.undo(), REJECTED);
         ReactiveNotebook x = new ReactiveNotebook();
         x.deleteCell(0);
         checks.due("a refused call leaves it empty", x.undo(), REJECTED);

@@ -9,6 +9,7 @@ import java.util.ArrayList;
 import java.util.List;
 import java.util.Set;
 import java.util.TreeSet;
+import java.util.regex.Matcher;
 import java.util.regex.Pattern;
 
 /** The document's face, and those rules of LANGUAGE.md that a program can look after. */
@@ -37,6 +38,7 @@ final class LanguageTests {
         members();
         classesInside();
         source();
+        methods();
         checks.finish();
     }
 
@@ -125,6 +127,43 @@ final class LanguageTests {
         String code = source.replaceAll("(?s)/\\*.*?\\*/", " ").replaceAll("//[^\n]*", " ");
         for (String word : RULED_OUT) {
             checks.holds("no " + word, !Pattern.compile(word).matcher(code).find());
+        }
+    }
+
+    /** A method's head stands in the file as a line of its own, four or eight signs in, and ends with its opening brace. */
+    private static final Pattern HEAD = Pattern.compile("(    |        )(?! |(?:if|for|while|switch|else|do)\\b)([\\w\\[\\] ]*?)(\\w+)\\(.*\\) \\{");
+
+    private static void methods() throws IOException {
+        List<String> lines = Files.readAllLines(SOURCE);
+        int found = 0;
+        for (int start = 0; start < lines.size(); start++) {
+            Matcher head = HEAD.matcher(lines.get(start));
+            if (head.matches()) {
+                int end = start + 1;
+                while (!lines.get(end).equals(head.group(1) + "}")) {
+                    end++;
+                }
+                found++;
+                boolean isConstructor = head.group(2).isBlank() || head.group(2).equals("public ");
+                method(head.group(3), isConstructor, lines.subList(start, end + 1));
+            }
+        }
+        int due = 0;
+        for (Class<?> type : allClasses()) {
+            for (Method method : type.getDeclaredMethods()) {
+                due += method.isSynthetic() ? 0 : 1;
+            }
+        }
+        // Three of the four classes have a constructor of their own; Cell has none.
+        checks.due("methods and constructors found in the source", found, due + 3);
+    }
+
+    private static void method(String name, boolean isConstructor, List<String> lines) {
+        checks.holds(name + " has at most sixty lines", lines.size() <= 60);
+        Pattern makes = Pattern.compile("\\bnew\\b");
+        for (String line : lines) {
+            boolean isComment = line.strip().startsWith("//");
+            checks.holds(name + " makes no object: only constructors do", isConstructor || isComment || !makes.matcher(line).find());
         }
     }
 }
